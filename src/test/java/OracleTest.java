@@ -61,7 +61,9 @@ public final class OracleTest {
         int build = 20 + below(80);
         for (int n = 0; n < CALLS; n++) {
             int r = below(100);
-            if (n < build ? r < 80 : r < 4) {
+            if (n < 4 * stepsAtMost && !wild) {
+                tell(n % 4 == 0 ? 0 : 30);
+            } else if (n < build ? r < 80 : r < 4) {
                 tell(below(100));
             } else if (r % 12 == 0) {
                 due("run()", 5, x.run(), oracle.run());
@@ -82,10 +84,10 @@ public final class OracleTest {
         } else if (r < 65) {
             tellChoice();
         } else if (r < 75) {
-            int s = near(11), c = near(5), cost = near(2 * costAtMost) - costAtMost;
+            int s = near(Math.max(0, steps - 1)), c = near(choicesAtMost - 1), cost = near(2 * costAtMost) - costAtMost;
             due("cost(" + s + ", " + c + ", " + cost + ")", 2, x.cost(s, c, cost), oracle.cost(s, c, cost));
         } else if (r < 82) {
-            int k = near(1), most = near(40), least = chance(2) ? 0 : near(Math.max(0, Math.min(most, 12)));
+            int k = near(1), most = near(40), least = chance(4) ? near(Math.max(0, Math.min(most, 12))) : 0;
             due("resource(" + k + ", " + least + ", " + most + ")", 3,
                 x.resource(k, least, most), oracle.resource(k, least, most));
         } else {

@@ -288,6 +288,8 @@ public final class TermsBoundsTest {
         check.due("less of the second", ran(pair(0, 1, 1, 0, 1, 2)).dominated(2, 1), 0);
         check.due("less of the first, more of the second", ran(pair(0, 1, 2, 0, 2, 1)).dominated(2, 1), Check.NONE);
         check.due("the other way round", ran(pair(0, 1, 2, 0, 2, 1)).dominated(2, 0), Check.NONE);
+        check.due("much of the second", ran(pair(0, 0, 20, 0, 1, 20)).dominated(2, 1), 0);
+        check.due("much of the first", ran(pair(0, 20, 0, 0, 20, 1)).dominated(2, 1), 0);
     }
 
     @Sentence(promise = 0, says = DOMINATES)

@@ -249,11 +249,11 @@ public final class WideNodesBoundsTest {
         + "in its place, with their least LOWS, greatest HIGHS, all their last CHOICES, their least COST; "
         + "not LOOSE: those behind the w-th one are left out.";
 
-    /** Three NODES, in order: (0, 0) of COST 0, (7, 1) of COST 2, (1, 8) of COST 5. */
+    /** Three NODES, in order: (0, 0) of COST 0, (7, 2) of COST 2, (1, 8) of COST 5. */
     private static StateTables three() {
         StateTables x = Made.steps(1);
         x.choice(0, 0, 0, 0);
-        x.choice(0, 2, 7, 1);
+        x.choice(0, 2, 7, 2);
         x.choice(0, 5, 1, 8);
         return x;
     }
@@ -272,7 +272,7 @@ public final class WideNodesBoundsTest {
         y.resource(1, 8, 40);
         check.due("the third one stays", y.narrow(3, false), 5);
         check.due("the third one is left out", y.narrow(2, false), Check.NONE);
-        y.resource(1, 1, 40);
+        y.resource(1, 2, 40);
         check.due("the second one stays", y.narrow(2, false), 2);
         check.due("the second one is left out", y.narrow(1, false), Check.NONE);
     }
@@ -303,13 +303,13 @@ public final class WideNodesBoundsTest {
             x.choice(1, 10, 12, 13);
             x.bar(0, 0, 0, true);
             x.resource(0, 0, 13);
-            x.resource(1, 0, 14);
-            check.due("1 + 12 and 1 + 13", x.narrow(2, true), 11);
+            x.resource(1, 0, 15);
+            check.due("1 + 12 and 2 + 13", x.narrow(2, true), 11);
             check.due("each NODE alone is above a MOST", x.narrow(3, true), Check.NONE);
             x.resource(0, 0, 12);
             check.due("above MOST of the first", x.narrow(2, true), Check.NONE);
             x.resource(0, 0, 13);
-            x.resource(1, 0, 13);
+            x.resource(1, 0, 14);
             check.due("above MOST of the second", x.narrow(2, true), Check.NONE);
         }
     }

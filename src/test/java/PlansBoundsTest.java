@@ -65,6 +65,36 @@ public final class PlansBoundsTest {
         check.due("run() with both BARRED", y.run(), 1 + 2);
     }
 
+    /** (0, 1) by CHOICE 0 and five more in LAYER 1, 18 NODES in LAYER 2. */
+    private static StateTables spread() {
+        StateTables x = Made.steps(2);
+        for (int c = 0; c < 6; c++) {
+            x.choice(0, c, c, c == 0 ? 1 : 0);
+        }
+        x.choice(1, 0, 0, 5);
+        x.choice(1, 0, 0, 0);
+        x.choice(1, 0, 0, 0);
+        return x;
+    }
+
+    @Sentence(promise = 7, says = "All LAYERS are laid: how many NODES they have.")
+    static void runAgainLaysTheSame(Check check) {
+        StateTables once = spread();
+        StateTables thrice = spread();
+        check.due("run()", once.run(), 25);
+        check.dueEach("run() again", 25, n -> thrice.run(), 1, 2, 3);
+        for (int d = 0; d <= 2; d++) {
+            for (int i = 0; i < 18 && once.layer(d) > i; i++) {
+                String at = "(" + d + ", " + i + ")";
+                check.due("TO " + at, thrice.ways(d, i, true), once.ways(d, i, true));
+                check.due("FROM " + at, thrice.ways(d, i, false), once.ways(d, i, false));
+                check.due("the least COST TO " + at, thrice.node(d, i, 3), once.node(d, i, 3));
+                check.due("the least COST FROM " + at, thrice.node(d, i, 4), once.node(d, i, 4));
+            }
+        }
+        check.due("TO (0, 1)", thrice.ways(1, 0, true), 1);
+    }
+
     @Sentence(promise = 7, says = "FULL: one would have more than 400 (what was laid before is there no more).")
     static void fourHundredNodesAreLaid(Check check) {
         StateTables x = Made.wide();

@@ -1,5 +1,6 @@
 import java.io.IOException;
 import java.lang.reflect.Constructor;
+import java.lang.reflect.Executable;
 import java.lang.reflect.Field;
 import java.lang.reflect.Method;
 import java.lang.reflect.Modifier;
@@ -7,59 +8,95 @@ import java.nio.file.Files;
 import java.nio.file.Path;
 import java.util.ArrayList;
 import java.util.List;
-import java.util.Set;
 import java.util.TreeSet;
+import java.util.regex.Matcher;
 import java.util.regex.Pattern;
 
 /** The public face, and the words that LANGUAGE.md rules out. Run from the project's folder. */
 public final class FaceTest {
     private static final Check check = new Check();
 
-    private static final Set<String> FACE = Set.of(
-        "int step()", "int choice(int, int, int, int)", "int cost(int, int, int)",
-        "int resource(int, int, int)", "int bar(int, int, int, boolean)", "int run()",
-        "int best()", "long many()", "int plans()", "int plan(int, int)", "int layer(int)",
-        "int node(int, int, int)", "long ways(int, int, boolean)", "int dominated(int, int)",
-        "int leads(int, int, int)", "int narrow(int, boolean)", "int narrowed(int)", "int count(int)");
-    private static final Set<String> CONSTANTS = Set.of("NONE", "BAD", "FULL", "TURN");
-
-    public static void main(String[] args) throws IOException {
-        face();
+    public static void main(String[] args) throws IOException, IllegalAccessException {
+        face(Files.readString(Path.of("../shared/DOC.md")));
         nested();
         words();
         check.end();
     }
 
-    private static void face() {
-        check.due("final class", Modifier.isFinal(StateTables.class.getModifiers()));
-        Set<String> seen = new TreeSet<>();
-        Set<String> names = new TreeSet<>();
-        for (Method m : StateTables.class.getDeclaredMethods()) {
-            if (Modifier.isPrivate(m.getModifiers())) {
-                continue;
+    /** The lines of the document's chapter 'The public face', without the braces around them. */
+    private static List<String> asked(String document) {
+        Matcher code = Pattern.compile("(?s)## The public face\\s+```java\n(.*?)```").matcher(document);
+        check.due("the document has a face", code.find());
+        List<String> lines = new ArrayList<>();
+        for (String line : code.group(1).split("\n")) {
+            if (!line.equals("}")) {
+                lines.add(line.trim());
             }
-            check.due(m + " is public", Modifier.isPublic(m.getModifiers()));
-            seen.add(signature(m));
-            names.add(m.getName());
         }
-        check.due("the public methods are " + seen, seen.equals(FACE));
-        for (Method m : StateTables.class.getDeclaredMethods()) {
-            check.due(m + " has a name of its own",
-                Modifier.isPublic(m.getModifiers()) || !names.contains(m.getName()));
-        }
-        for (Field f : StateTables.class.getDeclaredFields()) {
-            check.due(f + " is private", CONSTANTS.contains(f.getName()) != Modifier.isPrivate(f.getModifiers()));
-        }
-        Constructor<?>[] made = StateTables.class.getDeclaredConstructors();
-        check.due("one constructor", made.length == 1 && Modifier.isPublic(made[0].getModifiers()));
+        return lines;
     }
 
-    private static String signature(Method m) {
+    private static void face(String document) throws IllegalAccessException {
+        List<String> seen = new ArrayList<>();
+        seen.add(Modifier.toString(StateTables.class.getModifiers()) + " class StateTables {");
+        for (Field f : StateTables.class.getDeclaredFields()) {
+            if (!Modifier.isPrivate(f.getModifiers())) {
+                seen.add(shown(f));
+            }
+        }
+        for (Constructor<?> c : StateTables.class.getDeclaredConstructors()) {
+            seen.add(shown(c));
+        }
+        for (Method m : StateTables.class.getDeclaredMethods()) {
+            if (!Modifier.isPrivate(m.getModifiers())) {
+                seen.add(shown(m));
+            } else {
+                dueNameOfItsOwn(m);
+            }
+        }
+        check.due("the face", inOrder(seen), inOrder(plain(asked(document))));
+    }
+
+    private static void dueNameOfItsOwn(Method hidden) {
+        boolean own = true;
+        for (Method m : StateTables.class.getMethods()) {
+            own &= m.getDeclaringClass() != StateTables.class || !m.getName().equals(hidden.getName());
+        }
+        check.due(hidden + " has a name of its own", own);
+    }
+
+    private static String inOrder(List<String> lines) {
+        return String.join("\n", new TreeSet<>(lines));
+    }
+
+    /** One line for each constant, and no names of arguments, as these are not in the compiled class. */
+    private static List<String> plain(List<String> lines) {
+        List<String> found = new ArrayList<>();
+        for (String line : lines) {
+            String type = "public static final int ";
+            if (line.startsWith(type)) {
+                for (String constant : line.substring(type.length()).replace(";", "").split(", ")) {
+                    found.add(type + constant + ";");
+                }
+            } else {
+                found.add(line.replaceAll("\\b(int|boolean) \\w+([,)])", "$1$2"));
+            }
+        }
+        return found;
+    }
+
+    private static String shown(Field f) throws IllegalAccessException {
+        String value = Modifier.isStatic(f.getModifiers()) ? " = " + f.get(null) : "";
+        return Modifier.toString(f.getModifiers()) + " " + f.getType() + " " + f.getName() + value + ";";
+    }
+
+    private static String shown(Executable e) {
         List<String> types = new ArrayList<>();
-        for (Class<?> type : m.getParameterTypes()) {
+        for (Class<?> type : e.getParameterTypes()) {
             types.add(type.getName());
         }
-        return m.getReturnType() + " " + m.getName() + "(" + String.join(", ", types) + ")";
+        String answer = e instanceof Method ? ((Method) e).getReturnType() + " " : "";
+        return Modifier.toString(e.getModifiers()) + " " + answer + e.getName() + "(" + String.join(", ", types) + ");";
     }
 
     private static void nested() {
@@ -67,12 +104,15 @@ public final class FaceTest {
         check.due("at most 11 classes inside", inside.length <= 11);
         for (Class<?> c : inside) {
             check.due(c + " is static", Modifier.isStatic(c.getModifiers()));
+            check.due(c + " is private or package-visible",
+                !Modifier.isPublic(c.getModifiers()) && !Modifier.isProtected(c.getModifiers()));
             for (Field f : c.getDeclaredFields()) {
                 check.due(f + ": static fields are final",
                     !Modifier.isStatic(f.getModifiers()) || Modifier.isFinal(f.getModifiers()));
             }
             for (Method m : c.getDeclaredMethods()) {
                 check.due(m + ": at most seven parameters", m.getParameterCount() <= 7);
+                dueNameOfItsOwn(m);
             }
         }
     }
